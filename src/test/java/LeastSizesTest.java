@@ -18,6 +18,7 @@ public final class LeastSizesTest {
         noneDo();
         copperOverWays();
         changesAreSeen();
+        fullHouse();
         badArguments();
         DUE.end();
     }
@@ -265,6 +266,36 @@ public final class LeastSizesTest {
         DUE.fails("no drop allowed", x.settled());
         x.limit(1);
         DUE.holds("some drop allowed", x.settled());
+    }
+
+    /** All sizes, cables and trays that there may be, the trays last. */
+    private static void fullHouse() {
+        CableSizes x = new CableSizes();
+        for (int size = 0; size < 6; size++) {
+            x.size(size + 1, (size + 1) * 10, 0);
+        }
+        for (int cable = 0; cable < 20; cable++) {
+            x.cable(cable % 9, cable % 9 + 1, (cable % 6 + 1) * 10);
+        }
+        for (int tray = 0; tray < 9; tray++) {
+            DUE.same("tray " + tray, x.tray(tray + 1, tray, 10, 1000), tray);
+        }
+        for (int tray = 9; tray < 15; tray++) {
+            DUE.same("tray " + tray, x.tray(0, 9, 100, 1000), tray);
+        }
+        DUE.holds("full: settled", x.settled());
+        for (int cable = 0; cable < 20; cable++) {
+            DUE.same("full: way of " + cable, x.way(cable, 0), cable % 9);
+            DUE.same("full: chosen " + cable, x.chosen(cable), cable % 6);
+            DUE.same("full: carries " + cable, x.cableAt(cable, 1), (cable % 6 + 1) * 10);
+        }
+        for (int tray = 0; tray < 15; tray++) {
+            DUE.same("full: cables of " + tray, x.told(tray, 2), tray < 2 ? 3 : tray < 9 ? 2 : 0);
+        }
+        DUE.same("full: fill of 8", x.told(8, 0), 9);
+        DUE.same("full: copper", x.copper(), 660);
+        x.current(19, 61);
+        DUE.fails("full: too much for the last", x.settled());
     }
 
     private static void badArguments() {

@@ -25,8 +25,9 @@ public final class ModelTest {
         CableSizes x = new CableSizes();
         SlowModel model = new SlowModel();
         int nodes = 3 + random.nextInt(8);
-        int mostCables = 1 + random.nextInt(6);
-        int mostSizes = mostCables > 4 ? 3 : 6;
+        // The model tries all sizes of all cables: the more cables, the fewer sizes.
+        int mostCables = 1 + random.nextInt(9);
+        int mostSizes = mostCables > 6 ? 2 : mostCables > 4 ? 3 : 6;
         for (int step = 0; step < 40; step++) {
             change(x, model, random, nodes, mostCables, mostSizes);
             if (step == 20 || step == 39) {
