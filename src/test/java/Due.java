@@ -20,6 +20,14 @@ final class Due {
         }
     }
 
+    void same(String what, String got, String want) {
+        checked++;
+        if (!got.equals(want)) {
+            wrong++;
+            System.out.println(test + ": " + what + " answered " + got + ", due is " + want);
+        }
+    }
+
     void holds(String what, boolean got) {
         same(what, got ? 1 : 0, 1);
     }
@@ -34,6 +42,16 @@ final class Due {
 
     void illegalState(String what, Call call) {
         throwing(what, call, IllegalStateException.class);
+    }
+
+    void taken(String what, Call call) {
+        checked++;
+        try {
+            call.answer();
+        } catch (RuntimeException e) {
+            wrong++;
+            System.out.println(test + ": " + what + " answered " + e.getClass().getName() + ", due is no exception");
+        }
     }
 
     private void throwing(String what, Call call, Class<?> want) {

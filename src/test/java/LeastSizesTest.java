@@ -19,6 +19,10 @@ public final class LeastSizesTest {
         copperOverWays();
         changesAreSeen();
         fullHouse();
+        settledWithoutCables();
+        greatestCopper();
+        looseBesideOthers();
+        countedThoughNoneDo();
         badArguments();
         DUE.end();
     }
@@ -296,6 +300,96 @@ public final class LeastSizesTest {
         DUE.same("full: copper", x.copper(), 660);
         x.current(19, 61);
         DUE.fails("full: too much for the last", x.settled());
+    }
+
+    /** "Also without cables": with and without trays and sizes. */
+    private static void settledWithoutCables() {
+        for (int trays = 0; trays <= 15; trays += 5) {
+            for (int sizes = 0; sizes <= 6; sizes += 3) {
+                CableSizes x = new CableSizes();
+                for (int tray = 0; tray < trays; tray++) {
+                    x.tray(0, 1, 1, 1);
+                }
+                for (int size = 0; size < sizes; size++) {
+                    x.size(size + 1, 1, 1000);
+                }
+                x.limit(0);
+                String what = "no cables, " + trays + " trays, " + sizes + " sizes";
+                DUE.holds(what + ": settled", x.settled());
+                DUE.same(what + ": copper", x.copper(), 0);
+                DUE.holds(what + ": right", x.right(0));
+                for (int tray = 0; tray < trays; tray++) {
+                    DUE.same(what + ": fill", x.told(tray, 0), 0);
+                    DUE.same(what + ": factor", x.told(tray, 1), 1000);
+                    DUE.same(what + ": cables", x.told(tray, 2), 0);
+                }
+                x.cable(0, 1, 1);
+                DUE.same(what + ", then one: settled", x.settled() ? 1 : 0, sizes > 0 && trays == 0 ? 1 : 0);
+            }
+        }
+    }
+
+    private static void greatestCopper() {
+        CableSizes x = new CableSizes();
+        for (int node = 0; node < 9; node++) {
+            x.tray(node, node + 1, 100, 1000);
+        }
+        x.size(100, 1000, 0);
+        for (int cable = 0; cable < 10; cable++) {
+            x.cable(cable % 2 == 0 ? 0 : 9, cable % 2 == 0 ? 9 : 0, 500);
+        }
+        DUE.same("ten through all trays", x.copper(), 10 * 100 * 900);
+        DUE.same("ten through all trays: cables", x.told(4, 2), 10);
+        x.cable(4, 5, 1);
+        DUE.same("eleven in one tray", x.copper(), NONE);
+        DUE.same("eleven in one tray: cables", x.told(4, 2), 11);
+    }
+
+    /** "0 when it is loose", "its rating when it is loose": its size is the least of all, whatever the others need. */
+    private static void looseBesideOthers() {
+        CableSizes x = new CableSizes();
+        x.tray(0, 1, 10, 100);
+        x.size(21, 37, 1000);
+        x.size(50, 800, 10);
+        x.cable(5, 6, 1000);
+        x.cable(0, 1, 300);
+        x.cable(6, 5, 1);
+        DUE.same("in the tray: chosen", x.chosen(1), 1);
+        DUE.same("in the tray: carries", x.cableAt(1, 1), 520);
+        DUE.same("in the tray: drop", x.cableAt(1, 0), 30);
+        DUE.same("fill without the loose ones", x.told(0, 0), 500);
+        for (int cable = 0; cable <= 2; cable += 2) {
+            DUE.same("loose: chosen", x.chosen(cable), 0);
+            DUE.same("loose: drop", x.cableAt(cable, 0), 0);
+            DUE.same("loose: its rating", x.cableAt(cable, 1), 37);
+        }
+        DUE.same("copper without the loose ones", x.copper(), 500);
+        x.current(1, 1000);
+        DUE.same("none do: loose, chosen", x.chosen(0), NONE);
+        DUE.same("none do: loose, drop", x.cableAt(0, 0), NONE);
+        DUE.same("none do: loose, carries", x.cableAt(0, 1), NONE);
+    }
+
+    /** "How many cables go through it (also if there are no least sizes)": from none to all twenty. */
+    private static void countedThoughNoneDo() {
+        CableSizes x = new CableSizes();
+        x.tray(0, 1, 10, 1);
+        x.tray(1, 2, 10, 1000);
+        x.tray(8, 9, 10, 1000);
+        for (int cable = 0; cable < 20; cable++) {
+            x.cable(cable % 2, 2, 1000);
+            DUE.same("without sizes: through 0", x.told(0, 2), cable / 2 + 1);
+            DUE.same("without sizes: through 1", x.told(1, 2), cable + 1);
+            DUE.same("without sizes: through 2", x.told(2, 2), 0);
+        }
+        x.size(100, 1000, 1000);
+        DUE.fails("too full", x.settled());
+        DUE.same("too full: through 0", x.told(0, 2), 10);
+        DUE.same("too full: through 1", x.told(1, 2), 20);
+        for (int tray = 0; tray < 3; tray++) {
+            DUE.same("too full: fill of " + tray, x.told(tray, 0), NONE);
+            DUE.same("too full: factor of " + tray, x.told(tray, 1), NONE);
+        }
     }
 
     private static void badArguments() {

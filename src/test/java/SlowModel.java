@@ -96,13 +96,18 @@ final class SlowModel {
     }
 
     boolean allRight(int[] picks, List<List<Integer>> ways) {
-        for (int c = 0; c < cables.size(); c++) {
+        return lastWrong(picks, ways) < 0;
+    }
+
+    /** The last cable that is not right; -1 if all are. */
+    int lastWrong(int[] picks, List<List<Integer>> ways) {
+        for (int c = cables.size() - 1; c >= 0; c--) {
             if (ways.get(c) != null
                 && (carriedBy(c, picks, ways) < cables.get(c)[2] || dropOf(c, picks, ways) > limit)) {
-                return false;
+                return c;
             }
         }
-        return true;
+        return -1;
     }
 
     /** The sizes for all cables that are right, and of which no other right ones have a lesser one; null if none. */
