@@ -4,6 +4,7 @@ public final class ChangesTest {
 
     public static void main(String[] args) {
         newObject();
+        twoInTurn();
         tenNodes();
         trays();
         sizes();
@@ -29,6 +30,31 @@ public final class ChangesTest {
         DUE.same("new: limit", x.limit(7), 100000);
         CableSizes y = new CableSizes();
         DUE.same("another: limit", y.limit(7), 100000);
+    }
+
+    private static void twoInTurn() {
+        CableSizes x = new CableSizes();
+        CableSizes y = new CableSizes();
+        for (int i = 0; i < 3; i++) {
+            DUE.same("one's tray " + i, x.tray(i, i + 1, 10, 100), i);
+            DUE.same("other's tray " + i, y.tray(i, i + 1, 20, 50), i);
+            DUE.same("one's size " + i, x.size(5 + i, 10 + i, 10), i);
+            DUE.same("other's size " + i, y.size(10 + i, 20 + i, 5), i);
+            DUE.same("one's cable " + i, x.cable(0, i + 1, 3 + i), i);
+            DUE.same("other's cable " + i, y.cable(i + 1, 0, 6 + i), i);
+        }
+        DUE.same("one's limit", x.limit(1000), 100000);
+        DUE.same("other's limit", y.limit(2000), 100000);
+        DUE.same("one's fill", x.told(0, 0), 150);
+        DUE.same("other's fill", y.told(0, 0), 600);
+        DUE.same("one's copper", x.copper(), 5 * (10 + 20 + 30));
+        DUE.same("other's copper", y.copper(), 10 * (20 + 40 + 60));
+        DUE.same("one's current", x.current(2, 1), 5);
+        DUE.same("other's current", y.current(2, 1), 8);
+        DUE.same("one's room", x.room(2, 1), 100);
+        DUE.same("other's room", y.room(2, 50), 50);
+        DUE.fails("one is not settled", x.settled());
+        DUE.holds("the other is", y.settled());
     }
 
     private static void tenNodes() {

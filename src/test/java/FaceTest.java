@@ -13,17 +13,23 @@ public final class FaceTest {
     public static void main(String[] args) {
         Due due = new Due("FaceTest");
         Set<String> want = new TreeSet<>(Set.of(
-            "NONE = -1", "CableSizes()",
-            "int tray(int int int int)" + BOTH, "int size(int int int)" + BOTH, "int cable(int int int)" + BOTH,
-            "int current(int int)" + ARGUMENT, "int room(int int)" + ARGUMENT, "int limit(int)" + ARGUMENT,
-            "int way(int)" + ARGUMENT, "int way(int int)" + ARGUMENT,
-            "boolean settled()", "int chosen(int)" + ARGUMENT, "int told(int int)" + ARGUMENT,
-            "int cableAt(int int)" + ARGUMENT, "int copper()", "boolean right(long)" + ARGUMENT));
+            "public static final int NONE = -1", "public CableSizes()",
+            "public int tray(int int int int)" + BOTH, "public int size(int int int)" + BOTH,
+            "public int cable(int int int)" + BOTH, "public int current(int int)" + ARGUMENT,
+            "public int room(int int)" + ARGUMENT, "public int limit(int)" + ARGUMENT,
+            "public int way(int)" + ARGUMENT, "public int way(int int)" + ARGUMENT,
+            "public boolean settled()", "public int chosen(int)" + ARGUMENT, "public int told(int int)" + ARGUMENT,
+            "public int cableAt(int int)" + ARGUMENT, "public int copper()", "public boolean right(long)" + ARGUMENT));
         Set<String> got = visibleMembers();
         due.holds("the face " + got, got.equals(want));
         int modifiers = CableSizes.class.getModifiers();
         due.holds("public", Modifier.isPublic(modifiers));
         due.holds("final", Modifier.isFinal(modifiers));
+        for (Class<?> inside : CableSizes.class.getDeclaredClasses()) {
+            due.holds(inside + " is static", Modifier.isStatic(inside.getModifiers()));
+            due.fails(inside + " is public or protected",
+                Modifier.isPublic(inside.getModifiers()) || Modifier.isProtected(inside.getModifiers()));
+        }
         due.end();
     }
 
@@ -31,17 +37,20 @@ public final class FaceTest {
         Set<String> got = new TreeSet<>();
         for (Field field : CableSizes.class.getDeclaredFields()) {
             if (!Modifier.isPrivate(field.getModifiers())) {
-                got.add(field.getName() + " = " + CableSizes.NONE);
+                got.add(Modifier.toString(field.getModifiers()) + " " + field.getType() + " " + field.getName()
+                    + " = " + CableSizes.NONE);
             }
         }
         for (Constructor<?> made : CableSizes.class.getDeclaredConstructors()) {
             if (!Modifier.isPrivate(made.getModifiers())) {
-                got.add("CableSizes(" + names(made.getParameterTypes(), "") + ")");
+                got.add(Modifier.toString(made.getModifiers())
+                    + " CableSizes(" + names(made.getParameterTypes(), "") + ")");
             }
         }
         for (Method method : CableSizes.class.getDeclaredMethods()) {
             if (!Modifier.isPrivate(method.getModifiers())) {
-                got.add(method.getReturnType().getSimpleName() + " " + method.getName()
+                got.add(Modifier.toString(method.getModifiers()) + " "
+                    + method.getReturnType().getSimpleName() + " " + method.getName()
                     + "(" + names(method.getParameterTypes(), "") + ")"
                     + names(method.getExceptionTypes(), " throws "));
             }

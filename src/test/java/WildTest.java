@@ -7,7 +7,7 @@ import java.util.TreeMap;
 public final class WildTest {
     private static final Due DUE = new Due("WildTest");
     private static final int RUNS = 1500;
-    private static final int CALLS = 500;
+    private static final int CALLS = 512;
     private static final String[] CHANGES = {"tray", "size", "cable", "current", "room", "limit"};
     private static final String[] QUESTIONS = {"way", "way k", "settled", "chosen", "told", "cableAt", "copper", "right"};
     private static final Map<String, Integer> SEEN = new TreeMap<>();
